@@ -219,7 +219,9 @@ public final class DeedTongue {
             return NONE;
         }
         int before = ledger.size();
-        court.dawn();
+        for (int life = 0; life < MAX_LIVES; life++) {
+            court.wake(court.lifeAt(life));
+        }
         return ledger.size() - before;
     }
 
@@ -305,7 +307,8 @@ public final class DeedTongue {
         if (one == null || two == null || !isAhead(n) || one.hasChoices() || two.hasChoices()) {
             return NONE;
         }
-        return worlds.part(one, two, n);
+        worlds.start(one, n);
+        return worlds.firstParting(one, two, 0, 0);
     }
 
     public int count(int what) {
@@ -368,6 +371,10 @@ public final class DeedTongue {
         return kind == WHEN || kind == ANYTIME || kind == UNTIL;
     }
 
+    private static boolean hasSum(int kind) {
+        return kind == SCALE || hasTest(kind);
+    }
+
     private static boolean hasPair(int kind) {
         return kind == BOTH || kind == OR || kind == THEN;
     }
@@ -390,13 +397,23 @@ public final class DeedTongue {
         private final int[] things = new int[THINGS];
         private int date;
 
-        int thing(int thing) {
-            return thing >= 0 && thing < THINGS ? things[thing] : 0;
+        int valueOf(int value) {
+            if (value >= 0) {
+                return value;
+            }
+            int thing = FIRST_THING - value;
+            return thing >= 0 && thing < THINGS ? things[thing] : date;
         }
 
         void setThing(int thing, int v) {
             if (thing >= 0 && thing < THINGS) {
                 things[thing] = v;
+            }
+        }
+
+        void addThing(int thing, int v) {
+            if (thing >= 0 && thing < THINGS) {
+                things[thing] += v;
             }
         }
 
@@ -529,10 +546,13 @@ public final class DeedTongue {
             }
         }
 
-        /** A WORD more, the next DEED of the one around it (NONE: it is WORD 0); NONE without room. */
+        /**
+         * A WORD more, the next DEED of the one around it (NONE: it is WORD 0); NONE without room. As none is
+         * within more than 11 others, whatever goes through a FORM from WORD to DEED goes no deeper.
+         */
         int grow(int kind, int around) {
             int word = size;
-            if (word < 0 || (word + 1) * FIELDS > cells.length) {
+            if (word < 0 || (word + 1) * FIELDS > cells.length || field(around, AT_DEPTH) >= MAX_WITHIN) {
                 return NONE;
             }
             size++;
@@ -587,12 +607,12 @@ public final class DeedTongue {
             return value >= 0 && value < values && at < parts.length ? parts[at] : NONE;
         }
 
-        /** A VALUE has its 64 bits by itself; a product takes the sign of its first VALUE along. */
+        /** A product takes the sign ahead of its first VALUE along. */
         private long sum(int from, int to, Scene scene) {
             long total = 0;
             long product = 0;
             for (int i = Math.max(from, 0); i < to && i < values; i++) {
-                long v = valueOn(value(i), scene);
+                long v = scene.valueOf(value(i));
                 if (joint(i) == '*') {
                     product *= v;
                 } else {
@@ -601,13 +621,6 @@ public final class DeedTongue {
                 }
             }
             return total + product;
-        }
-
-        private static long valueOn(int value, Scene scene) {
-            if (value >= 0) {
-                return value;
-            }
-            return value == THE_DAY ? scene.date : scene.thing(FIRST_THING - value);
         }
 
         boolean holds(int word, Scene scene) {
@@ -767,17 +780,13 @@ public final class DeedTongue {
                 return fail(start, FAULT_WORDS);
             }
             place = start + length;
-            return readHead(kind, word) && readDeeds(kind, word, within);
-        }
-
-        private boolean readHead(int kind, int word) {
-            if (hasNumber(kind)) {
-                return readN(word);
+            if (hasNumber(kind) && !readN(word)) {
+                return false;
             }
-            if (hasTest(kind)) {
-                return readTest(word) && readSign(':');
+            if (hasSum(kind) && !readSums(kind, word)) {
+                return false;
             }
-            return kind != SCALE || readScale(word) && readSign(':');
+            return readDeeds(kind, word, within);
         }
 
         private boolean readDeeds(int kind, int word, int within) {
@@ -816,22 +825,18 @@ public final class DeedTongue {
             return number;
         }
 
-        private boolean readScale(int word) {
+        /** A TEST or the SUM of a scale, and the sign behind it. */
+        private boolean readSums(int kind, int word) {
             draft.setField(word, AT_LEFT, draft.valueCount());
             if (!readSum()) {
                 return false;
             }
             draft.setField(word, AT_MIDDLE, draft.valueCount());
-            draft.setField(word, AT_CLOSE, draft.valueCount());
-            return true;
-        }
-
-        private boolean readTest(int word) {
-            if (!readScale(word) || !readRelation(word) || !readSum()) {
+            if (hasTest(kind) && (!readRelation(word) || !readSum())) {
                 return false;
             }
             draft.setField(word, AT_CLOSE, draft.valueCount());
-            return true;
+            return readSign(':');
         }
 
         private boolean readRelation(int word) {
@@ -871,7 +876,7 @@ public final class DeedTongue {
             if (isDigit(b)) {
                 value = readNumber();
             } else if (isLetter(b)) {
-                value = readNamedValue();
+                value = readNamedValue(lettersFrom(start));
             } else {
                 return fail(start, FAULT_SIGN);
             }
@@ -882,9 +887,8 @@ public final class DeedTongue {
         }
 
         /** The day or a THING; NONE, with its FAULT, for another WORD. */
-        private int readNamedValue() {
+        private int readNamedValue(int length) {
             int start = place;
-            int length = lettersFrom(start);
             if (length == 3 && text.at(start) == 'd' && text.at(start + 1) == 'a' && text.at(start + 2) == 'y') {
                 place = start + length;
                 return THE_DAY;
@@ -940,14 +944,14 @@ public final class DeedTongue {
                 gap();
                 writeNumber(form.field(word, AT_NUMBER));
             }
-            if (hasTest(kind) || kind == SCALE) {
+            if (hasSum(kind)) {
                 writeSum(form, form.field(word, AT_LEFT), middle);
             }
             if (hasTest(kind)) {
                 writeRelation(form.field(word, AT_SIGN));
                 writeSum(form, middle, form.field(word, AT_CLOSE));
             }
-            if (hasTest(kind) || kind == SCALE) {
+            if (hasSum(kind)) {
                 out.put(':');
             }
         }
@@ -1101,11 +1105,11 @@ public final class DeedTongue {
                 return;
             }
             int copy = to.grow(kind, around);
-            if (copy == NONE || to.field(copy, AT_DEPTH) > MAX_WITHIN) {
+            if (copy == NONE) {
                 return;
             }
             to.setField(copy, AT_NUMBER, from.field(word, AT_NUMBER));
-            if (hasTest(kind) || kind == SCALE) {
+            if (hasSum(kind)) {
                 copySums(from, word, to, copy);
             }
             if (hasDeed(kind)) {
@@ -1321,17 +1325,11 @@ public final class DeedTongue {
             }
         }
 
-        void dawn() {
-            for (int i = 0; i < size; i++) {
-                Life life = lifeAt(i);
-                if (life != null) {
-                    wake(life);
-                }
-            }
-        }
-
         /** Looks at so many as STOOD: what goes makes room for the next, what is new is behind these. */
-        private void wake(Life life) {
+        void wake(Life life) {
+            if (life == null) {
+                return;
+            }
             int k = 0;
             for (int left = Math.min(life.size(), MAX_STANDING); left > 0; left--) {
                 if (rests(life, life.wordAt(k))) {
@@ -1587,7 +1585,8 @@ public final class DeedTongue {
             return power;
         }
 
-        private void start(Form form, int n) {
+        /** NOW, where every WORLD begins. */
+        void start(Form form, int n) {
             this.form = form;
             ahead = Math.min(n, MAX_AHEAD);
             path[0].copyFrom(today);
@@ -1605,7 +1604,7 @@ public final class DeedTongue {
             for (int thing = 0; thing < THINGS; thing++) {
                 int at = way * THINGS + thing;
                 if (at >= 0 && at < steps.length) {
-                    next.setThing(thing, next.thing(thing) + steps[at]);
+                    next.addThing(thing, steps[at]);
                 }
             }
         }
@@ -1716,14 +1715,8 @@ public final class DeedTongue {
             return false;
         }
 
-        /** The first WORLD by which two FORMS are PARTED. */
-        int part(Form one, Form two, int n) {
-            start(one, n);
-            return firstParting(one, two, 0, 0);
-        }
-
         /** Goes through the WORLDS in order; the number has the WAYS so far as its digits. */
-        private int firstParting(Form one, Form two, int step, int number) {
+        int firstParting(Form one, Form two, int step, int number) {
             if (step >= ahead) {
                 return isParting(one, two) ? number : NOT_PARTED;
             }
