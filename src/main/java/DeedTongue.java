@@ -1523,7 +1523,8 @@ public final class DeedTongue {
         private final Scene[] path = new Scene[MAX_AHEAD + 1];
         private final long[] balance = new long[MAX_AHEAD + 1];
         private final Scene today;
-        private Form form;
+        // An empty one at first, so that it is never null.
+        private Form form = new Form(0, 0);
         private int ahead;
         private int goal;
 
