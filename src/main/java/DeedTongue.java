@@ -98,9 +98,9 @@ public final class DeedTongue {
     private static final int PAID_SECOND = 5;
     private static final int PAID_FIELDS = 6;
 
+    // What worth() tells: MEAN, LEAST, what is between is MOST, and all WEIGHTS.
     private static final int MEAN = 0;
     private static final int LEAST = 1;
-    private static final int MOST = 2;
     private static final int ALL_WEIGHTS = 3;
 
     private final Chronicle chronicle = new Chronicle();

@@ -137,6 +137,9 @@ public final class LawsTest {
         shortens("when s0=1:anytime s1<2:until day>3:scale 4:cap 5 give scale 0:one", "nothing");
         shortens("both(or(one,one),both(nothing,when 1=1:both(nothing,nothing)))", "one");
         shortens("give give both(nothing,scale 1:cap 7 cap 5 or(one,one))", "cap 5 one");
+        String deep = Due.times(5, "cap 9 scale 2:") + "give one";
+        shortens(deep, deep);
+        shortens(Due.times(11, "give ") + "one", "give one");
         shortens("both(scale 1+1:one,scale s0:scale 1:scale 3*s1:one)", "both(scale 1+1:one,scale s0:scale 3*s1:one)");
         shortens("when day>s0+1:scale 1:until s1*2=4:scale 3:one", "when day>s0+1:until s1*2=4:scale 3:one");
     }

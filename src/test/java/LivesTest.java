@@ -82,6 +82,8 @@ public final class LivesTest {
         pays("cap 4 cap 9 scale 20:one", 4);
         pays("cap 4 both(scale 9:one,scale 9:one)", 8);
         pays("cap 0 scale 9:one", 0);
+        pays(Due.times(11, "give ") + "one", -1);
+        pays(Due.times(10, "scale 2:") + "both(one,one)", 2048);
         // The FACTOR is held at each scale, the PAYMENT at its CAP alone.
         pays("scale 99999:scale 99999:one", 1000000);
         pays("scale 0-99999:scale 99999:one", -1000000);
@@ -166,6 +168,8 @@ public final class LivesTest {
         T.due("day 2", y.day(), 0);
         T.due("day 3", y.day(), 1);
         T.due("DAY", y.payment(0, 1), 3);
+        DeedTongue w = live(Due.times(10, "give ") + "when day=1:one");
+        T.due("within 11", w.day(), 1);
         DeedTongue z = live("when day>0:when day>0:when day>1:one");
         T.due("stands", z.standing(0, 0, 0), 0);
         T.due("day", z.day(), 0);

@@ -80,6 +80,9 @@ public final class ReadTest {
         fault("give\tone", 4, 0);
         fault("giveone", 0, 0);
         fault("g ive one", 0, 0);
+        fault("onez", 0, 0);
+        fault("one`", 3, 0);
+        fault("one{", 3, 0);
         fault("day", 0, 0);
         fault("s0", 0, 0);
         fault("nothings", 0, 0);
@@ -108,6 +111,8 @@ public final class ReadTest {
         fault("scale 000001:one", 6, 1);
         fault("scale 1+123456:one", 8, 1);
         fault("scale 1 2:one", 8, 0);
+        fault("scale 1/2:one", 7, 0);
+        fault("scale 1;2:one", 7, 0);
         fault("scale 1+:one", 8, 0);
         fault("scale +1:one", 6, 0);
         fault("scale s12:one", 8, 0);
@@ -131,6 +136,10 @@ public final class ReadTest {
         T.due("11 within", Due.answer(Due.times(11, "give ") + "one"), 0);
         fault(Due.times(12, "give ") + "one", 60, 2);
         fault(Due.times(12, "give ") + "two", 60, 0);
+        fault(Due.times(12, "both(") + "one", 60, 2);
+        fault(Due.times(12, "or(one,") + "one", 80, 2);
+        fault(Due.times(11, "or(one,") + "give one", 82, 2);
+        T.due("11 within, by the second DEEDS", Due.answer(Due.times(11, "or(one,") + "one" + Due.times(11, ")")), 0);
         fault(Due.times(12, "give "), 60, 0);
         T.due("40 VALUES", Due.answer("scale 1" + Due.times(39, "+1") + ":one"), 0);
         fault("scale 1" + Due.times(40, "+1") + ":one", 86, 4);
@@ -176,6 +185,7 @@ public final class ReadTest {
         String wrong = Due.times(399, " ") + "1";
         T.due("FAULT at the last byte", Due.answer(wrong), Due.fault(399, 0));
         String open = "give" + Due.times(396, " ");
+        T.due("400 blanks", Due.answer(Due.times(400, " ")), -3203);
         T.due("FAULT behind the last byte", Due.answer(open), -3203);
     }
 
@@ -213,6 +223,8 @@ public final class ReadTest {
         T.due("word(0, 13, 0)", x.word(0, 13, 0), -1);
         T.due("word(0, -1, 0)", x.word(0, -1, 0), -1);
         T.due("word(0, 0, 3)", x.word(0, 0, 3), -1);
+        T.due("word(0, 4, 3)", x.word(0, 4, 3), -1);
+        T.due("word(0, 4, -1)", x.word(0, 4, -1), -1);
         T.due("word(0, 0, -1)", x.word(0, 0, -1), -1);
         T.due("words(1)", x.words(1), -1);
         T.due("words(-1)", x.words(-1), -1);

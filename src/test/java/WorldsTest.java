@@ -76,6 +76,15 @@ public final class WorldsTest {
         T.due("adds(-1, 0, 1)", x.adds(-1, 0, 1), false);
         T.due("ways(2) and 3 again forget", x.ways(2) && x.ways(3), true);
         worths(x, 0, 4, 0, 0, 0, 81);
+        DeedTongue y = with("when s5*s5>0:one");
+        y.adds(0, 5, 1);
+        worths(y, 0, 1, 1, 1, 1, 1);
+        y.ways(3);
+        worths(y, 0, 4, 0, 0, 0, 81);
+        y.adds(2, 5, -99);
+        worths(y, 0, 1, 1, 0, 1, 3);
+        y.ways(3);
+        worths(y, 0, 4, 0, 0, 0, 81);
     }
 
     private static void refusedWorth() {
@@ -108,6 +117,12 @@ public final class WorldsTest {
         worths(x, 6, 1, -8, -2, -2);
         worths(x, 7, 1, 16, 4, 4);
         worths(x, 8, 1, 0, 0, 0);
+        DeedTongue y = with(Due.times(11, "give ") + "one", Due.times(10, "give ") + "when day=1:one");
+        worths(y, 0, 1, -1, -1, -1);
+        worths(y, 1, 1, 1, 1, 1);
+        comes(y, 0, 1, "111111111111");
+        comes(y, 1, 1, "111111111111");
+        T.due("within 11", y.parted(0, 1, 1), 0);
         T.due("nothing is paid by it", x.count(3), 0);
         T.due("no LIFE comes of it", x.count(2), 0);
     }
