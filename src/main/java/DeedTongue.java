@@ -714,8 +714,10 @@ public final class DeedTongue {
             return fault;
         }
 
+        /** Of two FAULTS the one of the lesser number is the first along the text, and of one place the least. */
         private boolean fail(int at, int kind) {
-            fault = 1 + 8 * at + kind;
+            int found = 1 + 8 * at + kind;
+            fault = fault == 0 ? found : Math.min(fault, found);
             return false;
         }
 
@@ -878,12 +880,13 @@ public final class DeedTongue {
             } else if (isLetter(b)) {
                 value = readNamedValue(lettersFrom(start));
             } else {
-                return fail(start, FAULT_SIGN);
+                fail(start, FAULT_SIGN);
             }
-            if (fault > 0) {
-                return false;
+            // A VALUE that goes wrong behind its first byte is counted too: as the 41st its FAULT is the first.
+            if (!draft.addValue(joint, value)) {
+                fail(start, FAULT_VALUES);
             }
-            return draft.addValue(joint, value) || fail(start, FAULT_VALUES);
+            return fault == 0;
         }
 
         /** The day or a THING; NONE, with its FAULT, for another WORD. */

@@ -183,7 +183,11 @@ final class Model {
             while (true) {
                 String t = token();
                 int place = tokenAt;
+                boolean tooMany = ++values == 41;
                 if (t.equals("s")) {
+                    if (tooMany) {
+                        throw new Fault(place, 4);
+                    }
                     char c = at < text.length() ? text.charAt(at) : 'x';
                     if (c < '0' || c > '5') {
                         throw new Fault(at, 0);
@@ -193,7 +197,7 @@ final class Model {
                 } else if (!t.equals("day")) {
                     t = Integer.toString(number(t));
                 }
-                if (++values == 41) {
+                if (tooMany) {
                     throw new Fault(place, 4);
                 }
                 signs.add(t);

@@ -101,9 +101,22 @@ public final class ModelTest {
         return text.length() > 400 ? "one" : text;
     }
 
-    private String marred(String text) {
+    /** A text of 38 to 43 VALUES, often with a byte near the last ones that can't stand there. */
+    private String manyValues() {
+        int n = 38 + random.nextInt(6);
+        int middle = 1 + random.nextInt(n - 1);
+        StringBuilder b = new StringBuilder("when ");
+        for (int i = 0; i < n; i++) {
+            String joint = i == middle ? "=" : i == 0 ? "" : "+-*".substring(random.nextInt(3)).substring(0, 1);
+            b.append(joint).append(blanks()).append(value());
+        }
+        String text = b.append(":one").toString();
+        return random.nextBoolean() ? text : marred(text, Math.max(0, text.length() - 25));
+    }
+
+    private String marred(String text, int from) {
         StringBuilder b = new StringBuilder(text);
-        int at = random.nextInt(b.length());
+        int at = from + random.nextInt(b.length() - from);
         char c = random.nextInt(9) == 0 ? (char) random.nextInt(256) : BYTES.charAt(random.nextInt(BYTES.length()));
         switch (random.nextInt(4)) {
             case 0:
@@ -135,10 +148,12 @@ public final class ModelTest {
         DeedTongue x = new DeedTongue();
         List<Model.Node> forms = new ArrayList<>();
         for (int i = 0; i < 6; i++) {
-            String text = random.nextInt(3) == 0 ? marred(text(true)) : text(true);
+            String text = random.nextInt(3) == 0 ? marred(text(true), 0) : text(true);
             int want = due(text, forms.size(), forms);
             T.due("form of '" + text + "'", Due.read(x, text), want);
         }
+        String many = manyValues();
+        T.due("form of '" + many + "'", Due.read(x, many), due(many, forms.size(), forms));
         int read = forms.size();
         for (int i = 0; i < read; i++) {
             wordsOf(x, i, forms.get(i));

@@ -146,12 +146,51 @@ public final class ReadTest {
         fault("scale 1" + Due.times(39, "+1") + "+123456:one", 86, 1);
         fault("scale 1" + Due.times(39, "+1") + "+two:one", 86, 0);
         fault("scale 1" + Due.times(39, "+1") + "+:one", 86, 0);
+        wrongThings();
         T.due("N is no VALUE", Due.answer("cap 5 then 3(scale 1" + Due.times(39, "+1") + ":one,one)"), 0);
         T.due("VALUES of all SUMS", Due.answer("when 1=1:when 1" + Due.times(18, "+1") + "=1" + Due.times(18, "+1")
                 + ":one"), 0);
         fault("when 1=1:when 1" + Due.times(18, "+1") + "=1" + Due.times(19, "+1") + ":one", 90, 4);
         fortyWords();
         text400();
+    }
+
+    /** The s of a 41st VALUE is ahead of the byte behind it that can't stand there. */
+    private static void wrongThings() {
+        String forty = "scale " + Due.times(40, "1+");
+        fault(forty + "s1:one", 86, 4);
+        fault(forty + "s9:one", 86, 4);
+        fault(forty + "s9\0\0", 86, 4);
+        fault(forty + "s6:one", 86, 4);
+        fault(forty + "s/:one", 86, 4);
+        fault(forty + "s:one", 86, 4);
+        fault(forty + "s 1:one", 86, 4);
+        fault(forty + "s+1:one", 86, 4);
+        fault(forty + "s\u00e9", 86, 4);
+        fault(forty + "s", 86, 4);
+        fault(forty + "  s", 88, 4);
+        fault(forty + "ss1:one", 86, 0);
+        fault(forty + "sa1:one", 86, 0);
+        fault(forty + "days:one", 86, 0);
+        fault(forty + "day:one", 86, 4);
+        fault(forty + "day1:one", 86, 4);
+        fault(forty + "12345x", 86, 4);
+        fault(forty, 86, 0);
+        fault(forty + "  ", 88, 0);
+        fault(forty + ")", 86, 0);
+        // A 40th VALUE is none too many, so that its byte behind the s is the first FAULT.
+        String fewer = "scale " + Due.times(39, "1+");
+        fault(fewer + "s9:one", 85, 0);
+        fault(fewer + "s:one", 85, 0);
+        fault(fewer + "s", 85, 0);
+        fault(fewer + "s9+s9:one", 85, 0);
+        // The 41st of a FORM, wherever its SUM stands.
+        String left = "when " + Due.times(39, "1+") + "1=";
+        fault(left + "s9:one", left.length(), 4);
+        fault(left + "s:one", left.length(), 4);
+        String inner = "when 1=" + Due.times(38, "1+") + "1:both(one,until ";
+        fault(inner + "s8>1:one)", inner.length(), 4);
+        fault(inner + "s>1:one)", inner.length(), 4);
     }
 
     /** both's of 3, 7, 15, 31 WORDS, so that none is within too many. */
