@@ -26,6 +26,8 @@ public final class CountTest {
         T.due("count(8)", x.count(8), -1);
         T.due("count(least)", x.count(Integer.MIN_VALUE), -1);
         objectsApart(x);
+        edges();
+        greatest();
         T.finish();
     }
 
@@ -33,6 +35,39 @@ public final class CountTest {
         for (int what = 0; what < due.length; what++) {
             T.due("count(" + what + ")", x.count(what), due[what]);
         }
+    }
+
+    private static void edges() {
+        T.says("7: what was LOST. NONE for others.");
+        DeedTongue x = new DeedTongue();
+        for (int what : new int[] {-1, 8, 9, 10, Integer.MIN_VALUE, Integer.MAX_VALUE}) {
+            T.due("count(" + what + ")", x.count(what), -1);
+        }
+    }
+
+    /** Everything as far as it goes, and what is refused beyond that is not counted. */
+    private static void greatest() {
+        T.says("What 0: NOW, 1: FORMS, 2: LIVES, 3: PAYMENTS, 4: bytes of the TAPE, 5: of OUT, 6: WAYS");
+        DeedTongue x = new DeedTongue();
+        Due.read(x, "cap12345one");
+        for (int i = 0; i < 20; i++) {
+            x.shorter(0);
+        }
+        for (int i = 0; i < 41; i++) {
+            x.begin(0, 0, 1);
+        }
+        for (int i = 0; i < 21; i++) {
+            x.feed(0, 0, 0, 0, 0);
+        }
+        x.tell(0);
+        x.tell(20);
+        x.ways(3);
+        x.ways(4);
+        counts(x, 0, 20, 40, 40, 400, 13, 3, 0);
+        for (int i = 0; i < 400; i++) {
+            x.day();
+        }
+        counts(x, 399, 20, 40, 40, 400, 13, 3, 0);
     }
 
     private static void objectsApart(DeedTongue used) {

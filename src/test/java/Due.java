@@ -1,6 +1,14 @@
+import java.io.IOException;
+import java.nio.file.Files;
+import java.nio.file.Path;
+
 /** What the tests share: answers that are due, and texts put on the TAPE. */
 final class Due {
+    private static final Path DOCUMENT = Path.of("../shared/DOC.md");
+
     private final String name;
+    private String document = "";
+    private String sentence = "";
     private int asked;
     private int wrong;
 
@@ -8,11 +16,32 @@ final class Due {
         this.name = name;
     }
 
+    /** The next answers are about these words of the document, which have to stand there as they are. */
+    void says(String words) {
+        sentence = " [" + words + "]";
+        if (document.isEmpty()) {
+            document = readDocument();
+        }
+        asked++;
+        if (!document.contains(words)) {
+            wrong++;
+            System.out.println(name + ": the document does not say '" + words + "'");
+        }
+    }
+
+    private static String readDocument() {
+        try {
+            return Files.readString(DOCUMENT);
+        } catch (IOException e) {
+            return "no document: " + e;
+        }
+    }
+
     void due(String call, long got, long want) {
         asked++;
         if (got != want) {
             wrong++;
-            System.out.println(name + ": " + call + " answered " + got + ", due is " + want);
+            System.out.println(name + ": " + call + " answered " + got + ", due is " + want + sentence);
         }
     }
 
@@ -24,7 +53,7 @@ final class Due {
         asked++;
         if (!got.equals(want)) {
             wrong++;
-            System.out.println(name + ": " + call + " answered '" + got + "', due is '" + want + "'");
+            System.out.println(name + ": " + call + " answered '" + got + "', due is '" + want + "'" + sentence);
         }
     }
 
@@ -40,9 +69,15 @@ final class Due {
     static void put(DeedTongue x, String text) {
         int before = x.count(4);
         for (int at = 0; at < text.length(); at += 20) {
-            x.feed(four(text, at), four(text, at + 4), four(text, at + 8), four(text, at + 12), four(text, at + 16));
+            int[] n = numbers(text, at);
+            x.feed(n[0], n[1], n[2], n[3], n[4]);
         }
         x.end(before + text.length());
+    }
+
+    /** Twenty bytes of a text as five numbers, with 0s behind its end. */
+    static int[] numbers(String text, int at) {
+        return new int[] {four(text, at), four(text, at + 4), four(text, at + 8), four(text, at + 12), four(text, at + 16)};
     }
 
     private static int four(String text, int at) {
@@ -75,6 +110,11 @@ final class Due {
             text.append((char) x.octet(i));
         }
         return text.toString();
+    }
+
+    /** A both of so many DEEDS, no deeper than it has to be. */
+    static String bush(int n, String deed) {
+        return n == 1 ? deed : "both(" + bush(n / 2, deed) + "," + bush(n - n / 2, deed) + ")";
     }
 
     /** A text so many times, one behind the other. */
