@@ -306,6 +306,7 @@ public final class EdgesLivesTest {
         }
         DeedTongue y = live("until day>=2:when day>=1:one");
         T.due("the DAY before", y.day(), 1);
+        T.says("LAPSED by an UNTIL it goes");
         DeedTongue z = live("until day>=1:or(one,one)");
         T.due("an or, too", z.day(), 0);
         T.due("stands", z.stands(0), 0);
@@ -574,7 +575,7 @@ public final class EdgesLivesTest {
         for (int n : due) {
             T.due("day", x.day(), n);
         }
-        T.says("-10000000 without it, or for another what.");
+        T.says("Of PAYMENT k what 0: the LIFE, 1: the DAY, 2: the coins, 3: the WORD; -10000000 without it, or for another what.");
         int[][] paid = {{0, 0, 1, 12}, {0, 2, 1, 6}, {0, 3, 1, 10}, {0, 3, 1, 11}};
         T.due("PAYMENTS", x.count(3), paid.length);
         for (int k = 0; k < paid.length; k++) {

@@ -211,6 +211,7 @@ public final class EdgesTextTest {
             // Digits beside a blank are two NUMBERS, of which the second can't stand there.
             behind(ahead[i] + "12345 ", "6" + rest[i], 0);
         }
+        T.says("1 a NUMBER of more digits");
         behind("cap ", Due.times(396, "7"), 1);
         behind("cap " + "12345", "", 0);
         DeedTongue x = new DeedTongue();
@@ -439,6 +440,8 @@ public final class EdgesTextTest {
     }
 
     private static void theEnd() {
+        T.says("DEED: nothing | one | give DEED | both PAIR | or PAIR | then N PAIR | when TEST : DEED | anytime TEST : DEED | "
+                + "until TEST : DEED | scale SUM : DEED | cap N DEED. PAIR: ( DEED , DEED ).");
         T.says("or the end (behind the last byte)");
         String[] texts = {"", "give", "both", "both(", "both(one", "both(one,", "both(one,one", "or(nothing", "then",
             "then 5", "then 5(", "when", "when 1", "when 1+", "when 1<", "when 1<=", "when 1=s", "when 1=1", "when 1=1:",
