@@ -2,7 +2,7 @@ import java.util.ArrayList;
 import java.util.List;
 import java.util.Random;
 
-/** Random texts and runs of calls, whose answers are compared with those of the model. */
+/** Random texts and runs of calls, whose answers are compared with those of the model, 512 calls an object. */
 public final class ModelTest {
     private static final Due T = new Due("ModelTest");
     private static final String[] SIGNS = {"<", "<=", "=", ">=", ">"};
@@ -145,69 +145,73 @@ public final class ModelTest {
     }
 
     private void texts() {
-        DeedTongue x = new DeedTongue();
+        Again x = new Again();
         List<Model.Node> forms = new ArrayList<>();
         for (int i = 0; i < 6; i++) {
             String text = random.nextInt(3) == 0 ? marred(text(true), 0) : text(true);
             int want = due(text, forms.size(), forms);
-            T.due("form of '" + text + "'", Due.read(x, text), want);
+            T.due("form of '" + text + "'", x.read(text), want);
         }
         String many = manyValues();
-        T.due("form of '" + many + "'", Due.read(x, many), due(many, forms.size(), forms));
+        T.due("form of '" + many + "'", x.read(many), due(many, forms.size(), forms));
         int read = forms.size();
         for (int i = 0; i < read; i++) {
+            int form = i;
             wordsOf(x, i, forms.get(i));
             forms.add(Model.shorter(forms.get(i)));
-            T.due("shorter", x.shorter(i), forms.size() - 1);
+            T.due("shorter", x.step(t -> t.shorter(form)), forms.size() - 1);
             wordsOf(x, forms.size() - 1, forms.get(forms.size() - 1));
         }
         for (int i = 0; i < forms.size(); i++) {
             for (int j = 0; j < forms.size(); j++) {
+                int one = i;
+                int two = j;
                 String a = Model.turned(Model.shorter(forms.get(i)));
                 String b = Model.turned(Model.shorter(forms.get(j)));
-                T.due("same", x.same(i, j), a.equals(b) ? 1 : 0);
+                T.due("same", x.ask(t -> t.same(one, two)), a.equals(b) ? 1 : 0);
             }
         }
     }
 
-    private static void wordsOf(DeedTongue x, int form, Model.Node node) {
-        T.due("told", Due.told(x, form), node.text());
+    private static void wordsOf(Again x, int form, Model.Node node) {
+        T.due("told", x.told(form), node.text());
         List<Model.Node> all = node.flat();
-        T.due("words", x.words(form), all.size());
-        for (int k = 0; k < all.size(); k++) {
-            T.due("kind", x.word(form, k, 0), Model.KINDS.indexOf(all.get(k).kind));
-            T.due("N", x.word(form, k, 2), all.get(k).n);
+        T.due("words", x.ask(t -> t.words(form)), all.size());
+        for (int i = 0; i < all.size(); i++) {
+            int k = i;
+            T.due("kind", x.ask(t -> t.word(form, k, 0)), Model.KINDS.indexOf(all.get(k).kind));
+            T.due("N", x.ask(t -> t.word(form, k, 2)), all.get(k).n);
         }
         depths(x, form, node, 0, all);
     }
 
-    private static void depths(DeedTongue x, int form, Model.Node node, int depth, List<Model.Node> all) {
-        T.due("depth", x.word(form, all.indexOf(node), 1), depth);
+    private static void depths(Again x, int form, Model.Node node, int depth, List<Model.Node> all) {
+        T.due("depth", x.ask(t -> t.word(form, all.indexOf(node), 1)), depth);
         for (Model.Node d : node.deeds) {
             depths(x, form, d, depth + 1, all);
         }
     }
 
-    private void readForms(DeedTongue x, Model m, int n, boolean choices) {
+    private void readForms(Again x, Model m, int n, boolean choices) {
         for (int i = 0; i < n; i++) {
             String text = text(choices);
             int want = due(text, m.forms.size(), m.forms);
-            T.due("form of '" + text + "'", Due.read(x, text), want);
+            T.due("form of '" + text + "'", x.read(text), want);
         }
     }
 
-    private void tellThings(DeedTongue x, Model m) {
+    private void tellThings(Again x, Model m) {
         int thing = random.nextInt(3);
         int day = Math.max(0, m.now - random.nextInt(3));
         int v = random.nextInt(9) - 3;
-        T.due("see", x.see(thing, day, v), true);
+        T.due("see", x.step(t -> t.see(thing, day, v) ? 1 : 0), 1);
         m.told.get(thing).put(day, v);
         int asked = random.nextInt(12);
-        T.due("seen", x.seen(thing, asked), m.seen(thing, asked));
+        T.due("seen", x.ask(t -> t.seen(thing, asked)), m.seen(thing, asked));
     }
 
     private void lives() {
-        DeedTongue x = new DeedTongue();
+        Again x = new Again();
         Model m = new Model();
         readForms(x, m, 5, true);
         for (int i = 0; i < 60 && !m.forms.isEmpty(); i++) {
@@ -216,7 +220,7 @@ public final class ModelTest {
         stateOf(x, m);
     }
 
-    private void step(DeedTongue x, Model m) {
+    private void step(Again x, Model m) {
         int life = random.nextInt(m.lives.size() + 1);
         int k = random.nextInt(3);
         int house = random.nextInt(3);
@@ -225,11 +229,11 @@ public final class ModelTest {
                 int form = random.nextInt(m.forms.size());
                 int other = (house + 1 + random.nextInt(2)) % 3;
                 if (m.lives.size() < 40) {
-                    T.due("begin", x.begin(form, house, other), m.begin(form, house, other));
+                    T.due("begin", x.step(t -> t.begin(form, house, other)), m.begin(form, house, other));
                 }
                 break;
             case 1:
-                T.due("day", x.day(), m.day());
+                T.due("day", x.step(t -> t.day()), m.day());
                 break;
             case 2:
             case 3:
@@ -238,10 +242,10 @@ public final class ModelTest {
             case 4:
             case 5:
                 int which = random.nextInt(2);
-                T.due("choose", x.choose(life, k, house, which), m.decide(life, k, house, "or", which));
+                T.due("choose", x.step(t -> t.choose(life, k, house, which)), m.decide(life, k, house, "or", which));
                 break;
             case 6:
-                T.due("take", x.take(life, k, house), m.decide(life, k, house, "anytime", 0));
+                T.due("take", x.step(t -> t.take(life, k, house)), m.decide(life, k, house, "anytime", 0));
                 break;
             default:
                 stateOf(x, m);
@@ -249,88 +253,103 @@ public final class ModelTest {
         }
     }
 
-    private void stateOf(DeedTongue x, Model m) {
+    private void stateOf(Again x, Model m) {
         for (int i = 0; i < m.lives.size(); i++) {
             standingOf(x, m, i);
         }
-        T.due("PAYMENTS", x.count(3), m.payments.size());
-        for (int k = 0; k < m.payments.size(); k++) {
-            for (int what = 0; what < 4; what++) {
-                T.due("payment", x.payment(k, what), m.payments.get(k)[what]);
-            }
+        T.due("PAYMENTS", x.ask(t -> t.count(3)), m.payments.size());
+        for (int i = 0; i < m.payments.size() * 4; i++) {
+            int k = i / 4;
+            int what = i % 4;
+            T.due("payment", x.ask(t -> t.payment(k, what)), m.payments.get(k)[what]);
         }
         long[] gets = new long[8];
         int day = random.nextInt(m.now + 2);
         List<long[]> gifts = m.net(day, gets);
-        T.due("net", x.net(day), gifts.size());
-        for (int k = 0; k < gifts.size(); k++) {
-            for (int what = 0; what < 3; what++) {
-                T.due("netted", x.netted(k, what), gifts.get(k)[what]);
-            }
+        T.due("net", x.step(t -> t.net(day)), gifts.size());
+        for (int i = 0; i < gifts.size() * 3; i++) {
+            int k = i / 3;
+            int what = i % 3;
+            T.due("netted", x.ask(t -> t.netted(k, what)), gifts.get(k)[what]);
         }
-        for (int h = 0; h < 8; h++) {
-            T.due("netted of a HOUSE", x.netted(0, 10 + h), gets[h]);
+        for (int i = 0; i < 8; i++) {
+            int house = i;
+            T.due("netted of a HOUSE", x.ask(t -> t.netted(0, 10 + house)), gets[house]);
         }
-        T.due("LOST", x.count(7), 0);
+        T.due("LOST", x.ask(t -> t.count(7)), 0);
     }
 
-    private static void standingOf(DeedTongue x, Model m, int i) {
+    private static void standingOf(Again x, Model m, int i) {
         Model.Life life = m.lives.get(i);
-        T.due("got", x.got(i), life.got);
-        T.due("stands", x.stands(i), life.standing.size());
-        for (int k = 0; k < life.standing.size(); k++) {
+        T.due("got", x.ask(t -> t.got(i)), life.got);
+        T.due("stands", x.ask(t -> t.stands(i)), life.standing.size());
+        for (int j = 0; j < life.standing.size(); j++) {
+            int k = j;
             Model.Stood s = life.standing.get(k);
             boolean holds = s.node.is("or") || m.view().holds(s.node);
             long[] due = {life.form.flat().indexOf(s.node), Model.KINDS.indexOf(s.node.kind),
                 life.sides[s.terms.chooser], s.terms.factor, s.terms.cap, s.terms.untils.size(), holds ? 1 : 0};
-            for (int what = 0; what < due.length; what++) {
-                T.due("standing", x.standing(i, k, what), due[what]);
+            for (int w = 0; w < due.length; w++) {
+                int what = w;
+                T.due("standing", x.ask(t -> t.standing(i, k, what)), due[what]);
             }
         }
     }
 
     private void worlds() {
-        DeedTongue x = new DeedTongue();
+        Again x = new Again();
         Model m = new Model();
         readForms(x, m, 3, true);
         int choosing = m.forms.size();
         readForms(x, m, 3, false);
         for (int i = 0; i < 4; i++) {
             tellThings(x, m);
-            T.due("day", x.day(), m.day());
+            T.due("day", x.step(t -> t.day()), m.day());
         }
         setWays(x, m);
         int n = 1 + random.nextInt(4);
         for (int i = 0; i < m.forms.size(); i++) {
-            Model.Node form = m.forms.get(i);
-            for (int what = 0; what < 3; what++) {
-                T.due("worth of " + form.text(), x.worth(i, n, what), m.worth(form, Model.firstTerms(), m.view(), n, what));
-            }
-            T.due("all WEIGHTS", x.worth(i, n, 3), m.power(n));
-            List<Model.Node> all = form.flat();
-            List<Model.Node> found = m.comeTo(form, n);
-            for (int k = 0; k < all.size(); k++) {
-                T.due("comeTo " + k + " of " + form.text(), x.comeTo(i, n, k), found.contains(all.get(k)) ? 1 : 0);
-            }
+            worldsOf(x, m, i, n);
         }
         for (int i = choosing; i < m.forms.size(); i++) {
             for (int j = choosing; j < m.forms.size(); j++) {
-                T.due("parted", x.parted(i, j, n), m.parted(m.forms.get(i), m.forms.get(j), n));
+                int a = i;
+                int b = j;
+                T.due("parted", x.ask(t -> t.parted(a, b, n)), m.parted(m.forms.get(a), m.forms.get(b), n));
             }
         }
     }
 
-    private void setWays(DeedTongue x, Model m) {
+    private static void worldsOf(Again x, Model m, int i, int n) {
+        Model.Node form = m.forms.get(i);
+        for (int w = 0; w < 3; w++) {
+            int what = w;
+            long want = m.worth(form, Model.firstTerms(), m.view(), n, what);
+            T.due("worth of " + form.text(), x.ask(t -> t.worth(i, n, what)), want);
+        }
+        T.due("all WEIGHTS", x.ask(t -> t.worth(i, n, 3)), m.power(n));
+        List<Model.Node> all = form.flat();
+        List<Model.Node> found = m.comeTo(form, n);
+        for (int word = 0; word < all.size(); word++) {
+            int k = word;
+            int want = found.contains(all.get(k)) ? 1 : 0;
+            T.due("comeTo " + k + " of " + form.text(), x.ask(t -> t.comeTo(i, n, k)), want);
+        }
+    }
+
+    private void setWays(Again x, Model m) {
         int ways = 1 + random.nextInt(3);
-        T.due("ways", x.ways(ways), true);
+        T.due("ways", x.step(t -> t.ways(ways) ? 1 : 0), 1);
         m.weights = new int[ways];
         m.adds = new long[ways][6];
-        for (int way = 0; way < ways; way++) {
+        for (int i = 0; i < ways; i++) {
+            int way = i;
             m.weights[way] = 1 + random.nextInt(4);
-            T.due("weight", x.weight(way, m.weights[way]), true);
-            for (int thing = 0; thing < 3; thing++) {
+            T.due("weight", x.step(t -> t.weight(way, m.weights[way]) ? 1 : 0), 1);
+            for (int j = 0; j < 3; j++) {
+                int thing = j;
                 m.adds[way][thing] = random.nextInt(5) - 2;
-                T.due("adds", x.adds(way, thing, (int) m.adds[way][thing]), true);
+                T.due("adds", x.step(t -> t.adds(way, thing, (int) m.adds[way][thing]) ? 1 : 0), 1);
             }
         }
     }
